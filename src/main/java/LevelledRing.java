@@ -17,6 +17,12 @@ public final class LevelledRing {
     private static final int LOWERING_METER = 77;
     private static final int LOUD_METER = 1000;
 
+    /** A coefficient of a product is a sum of this many products. */
+    private static final int PRODUCT_METER = SIZE;
+
+    /** And in the keys each of them brings T times an error of at most 1. */
+    private static final int SWITCHING_METER = SIZE * T;
+
     private static final int[] PRIMES = {32369, 29921, 28289, 26113};
 
     /** Q(l), the product of the primes up to ql. */
@@ -289,7 +295,7 @@ public final class LevelledRing {
 
     private boolean giveProduct(Value value) {
         value.level = left.level;
-        value.meter = 8 * left.meter * right.meter + switchingMeter(left.level);
+        value.meter = PRODUCT_METER * left.meter * right.meter + switchingMeter(left.level);
         if (value.isTooGreat()) {
             return false;
         }
@@ -303,7 +309,7 @@ public final class LevelledRing {
         for (int k = 0; k <= level; k++) {
             greatestDigits += PRIMES[k] - 1;
         }
-        return 136 * greatestDigits;
+        return SWITCHING_METER * greatestDigits;
     }
 
     private void multiplyOperands(Value value) {
