@@ -3,6 +3,8 @@ final class Checks {
     private final String name;
     private long looked = 0;
     private long wrong = 0;
+    private String sentence = "";
+    private int sentences = 0;
 
     Checks(String name) {
         this.name = name;
@@ -12,8 +14,18 @@ final class Checks {
         looked++;
         if (got != due) {
             wrong++;
-            System.out.println(name + ": " + what + " answered " + got + ", due is " + due);
+            System.out.println(name + sentence + ": " + what + " answered " + got + ", due is " + due);
         }
+    }
+
+    /** Runs a test of its own for one sentence of the document, which is named where an answer is wrong. */
+    void sentence(String words, Runnable test) {
+        long before = looked;
+        sentence = ", \"" + words + "\"";
+        test.run();
+        yes("this sentence's test looks at answers", looked > before);
+        sentence = "";
+        sentences++;
     }
 
     void yes(String what, boolean got) {
@@ -29,7 +41,8 @@ final class Checks {
     }
 
     void finish() {
-        System.out.println(name + ": " + looked + " answers looked at, " + wrong + " wrong");
+        String about = sentences > 0 ? " about " + sentences + " sentences" : "";
+        System.out.println(name + ": " + looked + " answers" + about + " looked at, " + wrong + " wrong");
         if (wrong > 0 || looked == 0) {
             System.exit(1);
         }

@@ -105,4 +105,107 @@ final class Pair {
             askAll(g);
         }
     }
+
+    /** Puts a whole message into the register. */
+    void message(int... coefficients) {
+        for (int i = 0; i < 8; i++) {
+            put(i, coefficients[i]);
+        }
+    }
+
+    /**
+     * Adds a gate whose value at level 3 hides nothing: C1 is 0, and C0 has just these coefficients, from -16 to 16.
+     * It is the difference of two inputs of one seed, so that it is the third of three new gates, and has the meter 66.
+     */
+    int exact(int... coefficients) {
+        for (int i = 0; i < 8; i++) {
+            put(i, Math.max(coefficients[i], 0));
+        }
+        int above = input(5);
+        for (int i = 0; i < 8; i++) {
+            put(i, Math.max(-coefficients[i], 0));
+        }
+        return difference(above, input(5));
+    }
+
+    /** Lowers a gate of level 3 by as many gates as it takes to come to a level. */
+    int loweredTo(int level, int gate) {
+        int g = gate;
+        for (int l = 3; l > level; l--) {
+            g = lowered(g);
+        }
+        return g;
+    }
+
+    /**
+     * Adds the gates of a circuit, of which each is one word: I is an input, S3,4 D3,4 and P3,4 are the sum, difference
+     * and product of the gates 3 and 4, L3 is gate 3 lowered. Answers the last one's number.
+     */
+    int build(String circuit) {
+        int g = LevelledRing.NONE;
+        for (String word : circuit.trim().split(" +")) {
+            String[] operands = word.substring(1).split(",");
+            int a = word.length() > 1 ? Integer.parseInt(operands[0]) : 0;
+            int b = operands.length > 1 ? Integer.parseInt(operands[1]) : 0;
+            switch (word.charAt(0)) {
+                case 'I': g = input(11 + count()); break;
+                case 'S': g = sum(a, b); break;
+                case 'D': g = difference(a, b); break;
+                case 'P': g = product(a, b); break;
+                case 'L': g = lowered(a); break;
+                default: throw new IllegalArgumentException(word);
+            }
+        }
+        return g;
+    }
+
+    void plainIs(int g, int... due) {
+        for (int i = 0; i < 8; i++) {
+            checks.same("plain(" + g + ", " + i + ")", plain(g, i), due[i]);
+        }
+    }
+
+    void decryptsToPlain(int g) {
+        for (int i = 0; i < 8; i++) {
+            checks.same("decrypted(" + g + ", " + i + ")", decrypted(g, i), plain(g, i));
+        }
+    }
+
+    void valueIs(int g, int level, long meter) {
+        checks.same("level(" + g + ")", level(g), level);
+        checks.same("meter(" + g + ")", meter(g), meter);
+        checks.yes("the meter of " + g + " bounds its noise", noise(g) <= meter);
+        decryptsToPlain(g);
+        askAll(g);
+    }
+
+    void hasNoValue(int g) {
+        checks.same("level(" + g + ")", level(g), LevelledRing.NONE);
+        checks.same("meter(" + g + ")", meter(g), LevelledRing.NONE);
+        checks.same("noise(" + g + ")", noise(g), LevelledRing.NONE);
+        for (int i = 0; i < 8; i++) {
+            checks.same("part(" + g + ", 0, " + i + ")", part(g, 0, i), LevelledRing.NONE);
+            checks.same("part(" + g + ", 1, " + i + ")", part(g, 1, i), LevelledRing.NONE);
+            checks.same("decrypted(" + g + ", " + i + ")", decrypted(g, i), LevelledRing.NONE);
+        }
+    }
+
+    /** The value of a gate at a level has the C1 of 0, and a C0 of these coefficients modulo Q(level). */
+    void isExactly(int g, int level, long... due) {
+        long modulus = ReferenceRing.modulus(level).longValueExact();
+        checks.same("level(" + g + ")", level(g), level);
+        for (int i = 0; i < 8; i++) {
+            checks.same("part(" + g + ", 0, " + i + ")", part(g, 0, i), due[i] < 0 ? modulus + due[i] : due[i]);
+            checks.same("part(" + g + ", 1, " + i + ")", part(g, 1, i), 0);
+        }
+    }
+
+    void runsThrough() {
+        checks.same("run()", run(), LevelledRing.NONE);
+    }
+
+    void isExhausted(int g) {
+        checks.same("run()", run(), g);
+        hasNoValue(g);
+    }
 }

@@ -70,35 +70,6 @@ public final class PromisesTest {
         return p;
     }
 
-    private void plainIs(Pair p, int g, int... due) {
-        for (int i = 0; i < 8; i++) {
-            checks.same("plain(" + g + ", " + i + ")", p.plain(g, i), due[i]);
-        }
-    }
-
-    private void decryptsToPlain(Pair p, int g) {
-        for (int i = 0; i < 8; i++) {
-            checks.same("decrypted(" + g + ", " + i + ")", p.decrypted(g, i), p.plain(g, i));
-        }
-    }
-
-    private void valueIs(Pair p, int g, int level, long meter) {
-        checks.same("level(" + g + ")", p.level(g), level);
-        checks.same("meter(" + g + ")", p.meter(g), meter);
-        checks.yes("the meter of " + g + " bounds its noise", p.noise(g) <= meter);
-        decryptsToPlain(p, g);
-        p.askAll(g);
-    }
-
-    private void hasNoValue(Pair p, int g) {
-        checks.same("level(" + g + ")", p.level(g), NONE);
-        checks.same("meter(" + g + ")", p.meter(g), NONE);
-        checks.same("noise(" + g + ")", p.noise(g), NONE);
-        checks.same("part(" + g + ", 0, 0)", p.part(g, 0, 0), NONE);
-        checks.same("part(" + g + ", 1, 7)", p.part(g, 1, 7), NONE);
-        checks.same("decrypted(" + g + ", 0)", p.decrypted(g, 0), NONE);
-    }
-
     // Promise 1
 
     private void newObject() {
@@ -110,7 +81,7 @@ public final class PromisesTest {
                 p.secret(i);
             }
             checks.same("input(3)", p.input(3), 0);
-            plainIs(p, 0, 0, 0, 0, 0, 0, 0, 0, 0);
+            p.plainIs(0, 0, 0, 0, 0, 0, 0, 0, 0);
             // A product at each level shows each of the keys A(j) and B(j).
             p.product(0, 0);
             p.lowered(0);
@@ -144,13 +115,13 @@ public final class PromisesTest {
             checks.no("put(" + i + ", 5)", p.put(i, 5));
         }
         p.input(0);
-        plainIs(p, 0, 3, 0, 16, 16, 0, 16, 8, 8);
+        p.plainIs(0, 3, 0, 16, 16, 0, 16, 8, 8);
         checks.yes("put(0, 4)", p.put(0, 4));
         p.input(0);
-        plainIs(p, 1, 4, 0, 16, 16, 0, 16, 8, 8);
+        p.plainIs(1, 4, 0, 16, 16, 0, 16, 8, 8);
         p.run();
-        valueIs(p, 0, 3, 33);
-        valueIs(p, 1, 3, 33);
+        p.valueIs(0, 3, 33);
+        p.valueIs(1, 3, 33);
     }
 
     // Promise 3
@@ -160,15 +131,15 @@ public final class PromisesTest {
         p.put(0, 9);
         checks.same("input(12)", p.input(12), 1);
         p.put(0, 0);
-        plainIs(p, 0, 1, 2, 3, 4, 5, 6, 7, 8);
-        plainIs(p, 1, 9, 2, 3, 4, 5, 6, 7, 8);
+        p.plainIs(0, 1, 2, 3, 4, 5, 6, 7, 8);
+        p.plainIs(1, 9, 2, 3, 4, 5, 6, 7, 8);
         for (int seed : SEEDS) {
             p.input(seed);
         }
-        hasNoValue(p, 0);
+        p.hasNoValue(0);
         checks.same("run()", p.run(), NONE);
         for (int g = 0; g < p.count(); g++) {
-            valueIs(p, g, 3, 33);
+            p.valueIs(g, 3, 33);
         }
         Pair full = pair("input up to 24 gates", 4);
         for (int g = 0; g < 24; g++) {
@@ -188,11 +159,11 @@ public final class PromisesTest {
         p.input(13);
         checks.same("sum(0, 1)", p.sum(0, 1), 2);
         checks.same("sum(1, 1)", p.sum(1, 1), 3);
-        plainIs(p, 2, 2, 4, 6, 8, 10, 12, 14, 7);
-        plainIs(p, 3, 2, 4, 6, 8, 10, 12, 14, 15);
+        p.plainIs(2, 2, 4, 6, 8, 10, 12, 14, 7);
+        p.plainIs(3, 2, 4, 6, 8, 10, 12, 14, 15);
         checks.same("run()", p.run(), NONE);
-        valueIs(p, 2, 3, 66);
-        valueIs(p, 3, 3, 66);
+        p.valueIs(2, 3, 66);
+        p.valueIs(3, 3, 66);
         long q3 = 715450762997731793L;
         checks.same("part(2, 0, 5)", p.part(2, 0, 5), (p.part(0, 0, 5) + p.part(1, 0, 5)) % q3);
         checks.same("part(2, 1, 5)", p.part(2, 1, 5), (p.part(0, 1, 5) + p.part(1, 1, 5)) % q3);
@@ -205,13 +176,13 @@ public final class PromisesTest {
         checks.same("difference(0, 1)", p.difference(0, 1), 2);
         checks.same("difference(1, 0)", p.difference(1, 0), 3);
         checks.same("difference(1, 1)", p.difference(1, 1), 4);
-        plainIs(p, 2, 16, 0, 0, 0, 0, 0, 0, 0);
-        plainIs(p, 3, 1, 0, 0, 0, 0, 0, 0, 0);
-        plainIs(p, 4, 0, 0, 0, 0, 0, 0, 0, 0);
+        p.plainIs(2, 16, 0, 0, 0, 0, 0, 0, 0);
+        p.plainIs(3, 1, 0, 0, 0, 0, 0, 0, 0);
+        p.plainIs(4, 0, 0, 0, 0, 0, 0, 0, 0);
         checks.same("run()", p.run(), NONE);
-        valueIs(p, 2, 3, 66);
-        valueIs(p, 3, 3, 66);
-        valueIs(p, 4, 3, 66);
+        p.valueIs(2, 3, 66);
+        p.valueIs(3, 3, 66);
+        p.valueIs(4, 3, 66);
         checks.same("noise(4)", p.noise(4), 0);
     }
 
@@ -224,8 +195,8 @@ public final class PromisesTest {
                 checks.same("run()", p.run(), NONE);
                 int level = 3 - Math.max(a, b);
                 long meter = level == 3 ? 66 : 154;
-                valueIs(p, sum, level, meter);
-                valueIs(p, difference, level, meter);
+                p.valueIs(sum, level, meter);
+                p.valueIs(difference, level, meter);
                 p.cut(4);
             }
         }
@@ -246,20 +217,20 @@ public final class PromisesTest {
         }
         checks.same("sum(19, 8)", p.sum(19, 8), 20);
         checks.same("run()", p.run(), NONE);
-        valueIs(p, 7, 1, 9656968);
-        valueIs(p, 8, 0, 399);
-        valueIs(p, 20, 0, 16184);
+        p.valueIs(7, 1, 9656968);
+        p.valueIs(8, 0, 399);
+        p.valueIs(20, 0, 16184);
         p.sum(20, 3);
         checks.same("run()", p.run(), 21);
-        hasNoValue(p, 21);
+        p.hasNoValue(21);
         p.cut(21);
         p.difference(0, 20);
         checks.same("run()", p.run(), 21);
-        hasNoValue(p, 21);
+        p.hasNoValue(21);
         p.cut(21);
         p.shift(20, 9);
         checks.same("run()", p.run(), NONE);
-        valueIs(p, 21, 0, 16184);
+        p.valueIs(21, 0, 16184);
     }
 
     // Promise 6
@@ -276,16 +247,16 @@ public final class PromisesTest {
         checks.same("product(0, 1)", p.product(0, 1), 2);
         checks.same("product(0, 0)", p.product(0, 0), 3);
         // (1 + 2x^7) * 3x = 3x + 6x^8, and x^8 is -1.
-        plainIs(p, 2, 11, 3, 0, 0, 0, 0, 0, 0);
+        p.plainIs(2, 11, 3, 0, 0, 0, 0, 0, 0);
         // 1 + 4x^7 + 4x^14
-        plainIs(p, 3, 1, 0, 0, 0, 0, 0, 13, 4);
+        p.plainIs(3, 1, 0, 0, 0, 0, 0, 13, 4);
         checks.same("run()", p.run(), NONE);
         long switching = 136 * (32368L + 29920 + 28288 + 26112);
-        valueIs(p, 2, 3, 8 * 33 * 33 + switching);
-        valueIs(p, 3, 3, 8 * 33 * 33 + switching);
+        p.valueIs(2, 3, 8 * 33 * 33 + switching);
+        p.valueIs(3, 3, 8 * 33 * 33 + switching);
         checks.same("product(2, 3)", p.product(2, 3), 4);
         checks.same("run()", p.run(), NONE);
-        valueIs(p, 4, 2, 8 * 685 * 685 + 136 * (32368L + 29920 + 28288));
+        p.valueIs(4, 2, 8 * 685 * 685 + 136 * (32368L + 29920 + 28288));
     }
 
     private void productOfDifferentLevels() {
@@ -297,14 +268,14 @@ public final class PromisesTest {
                 checks.same("run()", p.run(), NONE);
                 int level = 3 - Math.max(a, b);
                 long meter = level == 3 ? 33 : 77;
-                valueIs(p, g, level, 8 * meter * meter + switching[level]);
+                p.valueIs(g, level, 8 * meter * meter + switching[level]);
                 p.cut(4);
             }
         }
         p.sum(1, 1);
         p.product(4, 0);
         checks.same("run()", p.run(), NONE);
-        valueIs(p, 5, 2, 8 * 154 * 77 + switching[2]);
+        p.valueIs(5, 2, 8 * 154 * 77 + switching[2]);
     }
 
     /** A meter of 1000 is not yet lowered for a product, one of 1001 is. */
@@ -323,10 +294,10 @@ public final class PromisesTest {
         p.product(9, 11);
         p.product(11, 11);
         checks.same("run()", p.run(), NONE);
-        valueIs(p, 11, 2, 1000);
-        valueIs(p, 12, 2, 8 * 1000 * 77 + 136 * 90576L);
-        valueIs(p, 13, 2, 8 * 1000 * 77 + 136 * 90576L);
-        valueIs(p, 14, 2, 8 * 1000 * 1000 + 136 * 90576L);
+        p.valueIs(11, 2, 1000);
+        p.valueIs(12, 2, 8 * 1000 * 77 + 136 * 90576L);
+        p.valueIs(13, 2, 8 * 1000 * 77 + 136 * 90576L);
+        p.valueIs(14, 2, 8 * 1000 * 1000 + 136 * 90576L);
         p.cut(7);
         p.product(4, 4);
         p.lowered(7);
@@ -338,9 +309,9 @@ public final class PromisesTest {
         p.product(9, 12);
         p.product(12, 12);
         checks.same("run()", p.run(), NONE);
-        valueIs(p, 12, 2, 1001);
+        p.valueIs(12, 2, 1001);
         for (int g = 13; g <= 15; g++) {
-            valueIs(p, g, 1, 8 * 77 * 77 + 136 * 62288L);
+            p.valueIs(g, 1, 8 * 77 * 77 + 136 * 62288L);
         }
     }
 
@@ -348,12 +319,12 @@ public final class PromisesTest {
         Pair p = pairWithAllLevels("a product at level 0");
         p.product(3, 3);
         checks.same("run()", p.run(), 4);
-        hasNoValue(p, 4);
+        p.hasNoValue(4);
         p.cut(4);
         p.product(0, 3);
         checks.same("run()", p.run(), 4);
-        hasNoValue(p, 4);
-        plainIs(p, 4, 7, 10, 10, 9, 9, 12, 3, 1);
+        p.hasNoValue(4);
+        p.plainIs(4, 7, 10, 10, 9, 9, 12, 3, 1);
     }
 
     /** Twelve times 77 can be multiplied at level 1; thirteen times 77 is 1001, and at level 0 there is no room. */
@@ -365,15 +336,15 @@ public final class PromisesTest {
         }
         p.product(7, 2);
         checks.same("run()", p.run(), NONE);
-        valueIs(p, 8, 1, 1001);
-        valueIs(p, 9, 1, 8 * 924 * 77 + 136 * 62288L);
+        p.valueIs(8, 1, 1001);
+        p.valueIs(9, 1, 8 * 924 * 77 + 136 * 62288L);
         p.product(8, 2);
         checks.same("run()", p.run(), 10);
-        hasNoValue(p, 10);
+        p.hasNoValue(10);
         p.cut(10);
         p.product(2, 8);
         checks.same("run()", p.run(), 10);
-        hasNoValue(p, 10);
+        p.hasNoValue(10);
     }
 
     // Promise 7
@@ -384,14 +355,14 @@ public final class PromisesTest {
             checks.same("shift(0, " + k + ")", p.shift(0, k), k + 1);
         }
         checks.same("run()", p.run(), NONE);
-        plainIs(p, 1, 1, 2, 3, 4, 5, 6, 7, 8);
-        plainIs(p, 2, 9, 1, 2, 3, 4, 5, 6, 7);
-        plainIs(p, 8, 15, 14, 13, 12, 11, 10, 9, 1);
-        plainIs(p, 9, 16, 15, 14, 13, 12, 11, 10, 9);
-        plainIs(p, 10, 8, 16, 15, 14, 13, 12, 11, 10);
-        plainIs(p, 16, 2, 3, 4, 5, 6, 7, 8, 16);
+        p.plainIs(1, 1, 2, 3, 4, 5, 6, 7, 8);
+        p.plainIs(2, 9, 1, 2, 3, 4, 5, 6, 7);
+        p.plainIs(8, 15, 14, 13, 12, 11, 10, 9, 1);
+        p.plainIs(9, 16, 15, 14, 13, 12, 11, 10, 9);
+        p.plainIs(10, 8, 16, 15, 14, 13, 12, 11, 10);
+        p.plainIs(16, 2, 3, 4, 5, 6, 7, 8, 16);
         for (int g = 1; g <= 16; g++) {
-            valueIs(p, g, 3, 33);
+            p.valueIs(g, 3, 33);
         }
         for (int k : new int[] {Integer.MIN_VALUE, -1, 16, Integer.MAX_VALUE}) {
             checks.same("shift(0, " + k + ")", p.shift(0, k), NONE);
@@ -407,7 +378,7 @@ public final class PromisesTest {
         }
         checks.same("run()", p.run(), NONE);
         for (int a = 0; a < 4; a++) {
-            valueIs(p, 4 + a, 3 - a, a == 0 ? 33 : 77);
+            p.valueIs(4 + a, 3 - a, a == 0 ? 33 : 77);
         }
     }
 
@@ -420,16 +391,16 @@ public final class PromisesTest {
         checks.same("lowered(2)", p.lowered(2), 3);
         checks.same("lowered(3)", p.lowered(3), 4);
         checks.same("lowered(0)", p.lowered(0), 5);
-        plainIs(p, 5, 1, 2, 3, 4, 5, 6, 7, 8);
+        p.plainIs(5, 1, 2, 3, 4, 5, 6, 7, 8);
         checks.same("run()", p.run(), NONE);
-        valueIs(p, 2, 2, 15878280L / 26113 + 77);
-        valueIs(p, 3, 1, 77);
-        valueIs(p, 4, 0, 77);
-        valueIs(p, 5, 2, 77);
+        p.valueIs(2, 2, 15878280L / 26113 + 77);
+        p.valueIs(3, 1, 77);
+        p.valueIs(4, 0, 77);
+        p.valueIs(5, 2, 77);
         checks.same("lowered(4)", p.lowered(4), 6);
         checks.same("run()", p.run(), 6);
-        hasNoValue(p, 6);
-        plainIs(p, 6, p.plain(1, 0), p.plain(1, 1), p.plain(1, 2), p.plain(1, 3),
+        p.hasNoValue(6);
+        p.plainIs(6, p.plain(1, 0), p.plain(1, 1), p.plain(1, 2), p.plain(1, 3),
             p.plain(1, 4), p.plain(1, 5), p.plain(1, 6), p.plain(1, 7));
     }
 
@@ -446,8 +417,8 @@ public final class PromisesTest {
             p.sum(ab[0], ab[1]);
         }
         checks.same("run()", p.run(), NONE);
-        valueIs(p, 13, 1, 48 * 9656968L);
-        valueIs(p, 14, 1, 50 * 9656968L);
+        p.valueIs(13, 1, 48 * 9656968L);
+        p.valueIs(14, 1, 50 * 9656968L);
         return p;
     }
 
@@ -455,10 +426,10 @@ public final class PromisesTest {
         Pair p = pairWithLittleRoom("lowered with a meter that is too great");
         p.lowered(13);
         checks.same("run()", p.run(), NONE);
-        valueIs(p, 15, 0, 48 * 9656968L / 29921 + 77);
+        p.valueIs(15, 0, 48 * 9656968L / 29921 + 77);
         p.lowered(14);
         checks.same("run()", p.run(), 16);
-        hasNoValue(p, 16);
+        p.hasNoValue(16);
     }
 
     private void loweringForASumThatIsExhausted() {
@@ -466,12 +437,12 @@ public final class PromisesTest {
         for (int turn = 0; turn < 4; turn++) {
             int g = turn == 0 ? p.sum(3, 14) : turn == 1 ? p.sum(14, 3) : turn == 2 ? p.difference(14, 3) : p.product(3, 14);
             checks.same("run()", p.run(), g);
-            hasNoValue(p, g);
+            p.hasNoValue(g);
             p.cut(g);
         }
         p.sum(14, 14);
         checks.same("run()", p.run(), 15);
-        hasNoValue(p, 15);
+        p.hasNoValue(15);
     }
 
     // Promises 3 to 8: what is refused
@@ -554,22 +525,22 @@ public final class PromisesTest {
         checks.same("count()", p.count(), 3);
         checks.yes("cut(1)", p.cut(1));
         checks.same("count()", p.count(), 1);
-        valueIs(p, 0, 3, 33);
-        hasNoValue(p, 1);
+        p.valueIs(0, 3, 33);
+        p.hasNoValue(1);
         checks.same("plain(1, 0)", p.plain(1, 0), NONE);
         // A new gate of the same number has neither the old one's value nor its plain polynomial.
         checks.same("shift(0, 1)", p.shift(0, 1), 1);
-        hasNoValue(p, 1);
-        plainIs(p, 1, 9, 1, 2, 3, 4, 5, 6, 7);
+        p.hasNoValue(1);
+        p.plainIs(1, 9, 1, 2, 3, 4, 5, 6, 7);
         checks.same("run()", p.run(), NONE);
-        valueIs(p, 1, 3, 33);
+        p.valueIs(1, 3, 33);
         checks.no("cut(2)", p.cut(2));
         checks.yes("cut(0)", p.cut(0));
         checks.no("cut(0)", p.cut(0));
         checks.same("count()", p.count(), 0);
         // The message register stays.
         p.input(1);
-        plainIs(p, 0, 1, 2, 3, 4, 5, 6, 7, 8);
+        p.plainIs(0, 1, 2, 3, 4, 5, 6, 7, 8);
     }
 
     // Promise 11
@@ -580,16 +551,16 @@ public final class PromisesTest {
         p.put(5, 5);
         p.input(1);
         p.put(5, 6);
-        hasNoValue(p, 0);
+        p.hasNoValue(0);
         checks.same("run()", p.run(), NONE);
-        valueIs(p, 0, 3, 33);
+        p.valueIs(0, 3, 33);
         checks.same("decrypted(0, 5)", p.decrypted(0, 5), 5);
         p.sum(0, 0);
-        hasNoValue(p, 1);
+        p.hasNoValue(1);
         checks.same("run()", p.run(), NONE);
         checks.same("run()", p.run(), NONE);
-        valueIs(p, 0, 3, 33);
-        valueIs(p, 1, 3, 66);
+        p.valueIs(0, 3, 33);
+        p.valueIs(1, 3, 66);
     }
 
     private void runUpToAnExhaustedGate() {
@@ -598,21 +569,21 @@ public final class PromisesTest {
         p.sum(0, 0);
         p.lowered(4);
         checks.same("run()", p.run(), 4);
-        valueIs(p, 3, 0, 77);
-        hasNoValue(p, 4);
-        hasNoValue(p, 5);
-        hasNoValue(p, 6);
+        p.valueIs(3, 0, 77);
+        p.hasNoValue(4);
+        p.hasNoValue(5);
+        p.hasNoValue(6);
         checks.same("run()", p.run(), 4);
         p.input(2);
         checks.same("run()", p.run(), 4);
-        hasNoValue(p, 7);
+        p.hasNoValue(7);
         checks.yes("cut(5)", p.cut(5));
         checks.same("run()", p.run(), 4);
         checks.yes("cut(4)", p.cut(4));
         checks.same("run()", p.run(), NONE);
         p.sum(0, 0);
         checks.same("run()", p.run(), NONE);
-        valueIs(p, 4, 3, 66);
+        p.valueIs(4, 3, 66);
     }
 
     // Promises 12 to 14
@@ -642,7 +613,7 @@ public final class PromisesTest {
             p.sum(g - 1, g - 1);
         }
         checks.same("run()", p.run(), NONE);
-        valueIs(p, 21, 3, 15878280L << 20);
+        p.valueIs(21, 3, 15878280L << 20);
         checks.same("meter(22)", p.meter(22), NONE);
         for (int g : NO_GATES) {
             checks.same("meter(" + g + ")", p.meter(g), NONE);
@@ -720,7 +691,7 @@ public final class PromisesTest {
     private void plain() {
         Pair p = pairWithAllLevels("plain");
         for (int g = 0; g < 4; g++) {
-            plainIs(p, g, 1, 2, 3, 4, 5, 6, 7, 8);
+            p.plainIs(g, 1, 2, 3, 4, 5, 6, 7, 8);
             for (int wrong : NO_COEFFICIENTS) {
                 checks.same("plain(" + g + ", " + wrong + ")", p.plain(g, wrong), NONE);
             }
@@ -733,8 +704,8 @@ public final class PromisesTest {
         p.difference(4, 3);
         checks.same("run()", p.run(), 4);
         // An exhausted gate, and one after it, have their plain polynomials nevertheless.
-        plainIs(p, 4, 1, 2, 3, 4, 5, 6, 7, 8);
-        plainIs(p, 5, 0, 0, 0, 0, 0, 0, 0, 0);
+        p.plainIs(4, 1, 2, 3, 4, 5, 6, 7, 8);
+        p.plainIs(5, 0, 0, 0, 0, 0, 0, 0, 0);
     }
 
     // Promise 18
