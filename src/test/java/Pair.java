@@ -1,4 +1,4 @@
-/** Makes each call on the program and on the reference, checks that both answer the same, and hands the program's answer on. */
+/** Makes each call on the program and on the reference, checks that both answer the same, and hands the answer on. */
 final class Pair {
     final LevelledRing ring;
     final ReferenceRing reference;

@@ -371,7 +371,10 @@ public final class TermsBoundariesTest {
         return p.meter(g);
     }
 
-    /** The search found no circuit of 24 gates that comes nearer to this bound, from below or from above. */
+    /**
+     * No chain of sums of the second product that was searched comes nearer to this bound with 24 gates, from below or
+     * from above; to come to it exactly takes more gates, as far as can be seen.
+     */
     private void tooGreatAtLevel2() {
         long bound = 13699129992680L;
         checks.same("the bound", (MODULI[2] - 1) / 2, bound);
@@ -398,7 +401,10 @@ public final class TermsBoundariesTest {
         return all.toString();
     }
 
-    /** No 24 gates come to a meter that is too great here; the greatest that come near it have room. */
+    /**
+     * No 24 gates come to a meter that is too great here: a product has at most 8 * 1000 * 1000 + 15869568, which takes
+     * 34 doublings to come to the bound. Seventeen of them have room.
+     */
     private void neverTooGreatAtLevel3() {
         String doublings = withDoublings("I S0,0 S1,1 S2,2 S3,3 S4,3 P5,5", 6, 17);
         hasRoom(doublings, 3, (8 * 792 * 792 + SWITCHING[3]) << 17);
