@@ -1,4 +1,6 @@
 import java.io.IOException;
+import java.lang.reflect.Method;
+import java.lang.reflect.Modifier;
 import java.net.URL;
 import java.net.URLClassLoader;
 import java.nio.file.Files;
@@ -10,7 +12,6 @@ import java.util.TreeSet;
 import java.util.regex.Matcher;
 import java.util.regex.Pattern;
 import java.util.stream.Stream;
-import javax.tools.ToolProvider;
 
 /** What README.md says is so: its calls give the answers that it names, and its command runs all the tests. */
 public final class ReadmeTest {
@@ -53,8 +54,8 @@ public final class ReadmeTest {
         String source = sourceOf(blocks("java"));
         Path made = Files.createTempDirectory("readme");
         Path file = Files.writeString(made.resolve("ReadmeCalls.java"), source);
-        int compiled = ToolProvider.getSystemJavaCompiler().run(null, null, null, "--release", "17",
-            "-classpath", System.getProperty("java.class.path"), "-d", made.toString(), file.toString());
+        int compiled = new ProcessBuilder("javac", "-encoding", "UTF-8", "--release", "17", "-classpath",
+            System.getProperty("java.class.path"), "-d", made.toString(), file.toString()).inheritIO().start().waitFor();
         checks.same("javac of the calls that README.md shows", compiled, 0);
         if (compiled == 0) {
             compareAnswers(answersOf(made));
@@ -121,8 +122,8 @@ public final class ReadmeTest {
         while (calls.find()) {
             called.add(calls.group(1));
         }
-        for (java.lang.reflect.Method method : LevelledRing.class.getDeclaredMethods()) {
-            if (java.lang.reflect.Modifier.isPublic(method.getModifiers())) {
+        for (Method method : LevelledRing.class.getDeclaredMethods()) {
+            if (Modifier.isPublic(method.getModifiers())) {
                 checks.yes("README.md shows " + method.getName(), called.contains(method.getName()));
             }
         }
